@@ -790,17 +790,17 @@ public final class HallStiles {
         }
 
         int peopleOfAllHalls() {
-            int sum = 0;
-            for (int hall = STREET + 1; hall < HALLS; hall++) {
-                sum += at(people, hall);
-            }
-            return sum;
+            return sumOfAllHalls(people);
         }
 
         int roomsOfAllHalls() {
+            return sumOfAllHalls(rooms);
+        }
+
+        private static int sumOfAllHalls(int[] row) {
             int sum = 0;
             for (int hall = STREET + 1; hall < HALLS; hall++) {
-                sum += at(rooms, hall);
+                sum += at(row, hall);
             }
             return sum;
         }

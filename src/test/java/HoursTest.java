@@ -9,6 +9,7 @@ public final class HoursTest {
         closeTakesTheRateOfEachStile();
         closeHeedsRoom();
         closeEndsEarly();
+        closeGoesOnInEitherDirection();
         closeWaitsForNoRepair();
         closeKeepsDistancesForTheHour();
         closePassesNoWrongWay();
@@ -147,6 +148,22 @@ public final class HoursTest {
         Checks.due("back", x.undo(), 2);
         Checks.due("and one without", x.close(99), 0);
         Checks.due("clock", x.count(0), 4);
+    }
+
+    private static void closeGoesOnInEitherDirection() {
+        for (int first = 0; first < 2; first++) {
+            HallStiles x = new HallStiles();
+            x.stile(first, 1 - first);
+            x.stile(1 - first, first);
+            x.pass(0, first == 0, 90);
+            x.open(1, 3);
+            Checks.due("one stile, three hours", x.close(3), 0);
+            Checks.due("clock", x.count(0), 3);
+            x.undo();
+            x.open(1, 0);
+            Checks.due("both stiles, two hours", x.close(2), 0);
+            Checks.due("clock", x.count(0), 2);
+        }
     }
 
     private static void closeWaitsForNoRepair() {

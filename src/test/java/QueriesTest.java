@@ -12,6 +12,7 @@ public final class QueriesTest {
         counterTellsAllMissed();
         reason();
         worst();
+        worstOfSmallGaps();
         countErrors();
         count();
         fullestHall();
@@ -222,6 +223,23 @@ public final class QueriesTest {
         x.audit(5);
         Checks.due("worst(0)", x.worst(0), 2);
         Checks.due("worst(4)", x.worst(4), HallStiles.NONE);
+    }
+
+    private static void worstOfSmallGaps() {
+        HallStiles x = new HallStiles();
+        x.stile(0, 1);
+        x.stile(0, 1);
+        x.slip(0, 0, 2);
+        x.slip(1, 3, 2);
+        x.pass(0, true, 2);
+        Checks.due("a gap of 1", x.worst(0), 0);
+        x.pass(1, true, 2);
+        Checks.due("the lower number first", x.worst(0), 0);
+        Checks.due("then the other", x.worst(1), 1);
+        x.pass(1, true, 2);
+        Checks.due("the greater gap first", x.worst(0), 1);
+        Checks.due("then the lower number", x.worst(1), 0);
+        Checks.due("no more", x.worst(2), HallStiles.NONE);
     }
 
     private static void countErrors() {
