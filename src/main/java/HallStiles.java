@@ -937,12 +937,18 @@ public final class HallStiles {
             }
             boolean nearer = true;
             for (int round = 1; round < HALLS && nearer; round++) {
-                nearer = false;
-                for (int stile = 0; stile < state.stiles; stile++) {
-                    nearer |= comeNearer(state, stile, true);
-                    nearer |= comeNearer(state, stile, false);
-                }
+                nearer = comeNearerByAll(state);
             }
+        }
+
+        private boolean comeNearerByAll(State state) {
+            boolean nearer = false;
+            for (int stile = 0; stile < state.stiles; stile++) {
+                boolean fromFirst = comeNearer(state, stile, true);
+                boolean fromSecond = comeNearer(state, stile, false);
+                nearer = nearer || fromFirst || fromSecond;
+            }
+            return nearer;
         }
 
         private boolean comeNearer(State state, int stile, boolean fromFirst) {

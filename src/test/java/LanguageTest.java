@@ -15,7 +15,8 @@ public final class LanguageTest {
         "\\btry\\b", "\\bfinally\\b", "\\bthrow\\b", "\\bthrows\\b", "\\bsynchronized\\b",
         "\\bassert\\b", "\\binstanceof\\b", "->", "::", "\\bSystem\\b", "\\bThread\\b",
         "\\bprotected\\b", "\\bequals\\b", "\\bhashCode\\b", "\\btoString\\b", "\\bvar\\b",
-        "\\w+Exact\\b", "\\bstatic \\{", "\\bwhile \\(true\\)", "\\bfor \\(;;\\)"};
+        "\\w+Exact\\b", "\\bstatic \\{", "\\bwhile \\(true\\)", "\\bfor \\(;;\\)",
+        "[|&^]="};
     private static final int MOST_LINES = 60;
 
     public static void main(String[] args) throws IOException {
