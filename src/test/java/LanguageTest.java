@@ -1,13 +1,20 @@
 import java.io.IOException;
+import java.lang.reflect.Field;
+import java.lang.reflect.Method;
+import java.lang.reflect.Modifier;
 import java.nio.file.Files;
 import java.nio.file.Path;
+import java.util.ArrayList;
 import java.util.List;
+import java.util.Set;
+import java.util.TreeSet;
 import java.util.regex.Matcher;
 import java.util.regex.Pattern;
 
 /**
- * A few rules of LANGUAGE.md that a look at the text can tell: no words that the rules leave out,
- * each index looked at where it is used, objects made with the object alone, short methods.
+ * A few rules of LANGUAGE.md that a look at the text or at the class can tell: no words that the
+ * rules leave out, each index looked at where it is used, objects made with the object alone, short
+ * methods, few classes, fields and parameters, and names that are used once.
  */
 public final class LanguageTest {
     private static final Path SOURCE = Path.of("src/main/java/HallStiles.java");
@@ -18,6 +25,9 @@ public final class LanguageTest {
         "\\w+Exact\\b", "\\bstatic \\{", "\\bwhile \\(true\\)", "\\bfor \\(;;\\)",
         "[|&^]="};
     private static final int MOST_LINES = 60;
+    private static final int MOST_CLASSES = 12;
+    private static final int MOST_FIELDS = 20;
+    private static final int MOST_PARAMETERS = 7;
 
     public static void main(String[] args) throws IOException {
         List<String> lines = Files.readAllLines(SOURCE);
@@ -25,6 +35,8 @@ public final class LanguageTest {
         indexes(lines);
         objects(lines);
         methodLengths(lines);
+        sizes(classes());
+        names(classes());
         Checks.end();
     }
 
@@ -75,6 +87,45 @@ public final class LanguageTest {
                     end++;
                 }
                 Checks.isTrue("line " + (i + 1) + ": a long method", end - i < MOST_LINES);
+            }
+        }
+    }
+
+    private static List<Class<?>> classes() {
+        List<Class<?>> all = new ArrayList<>(List.of(HallStiles.class.getDeclaredClasses()));
+        all.add(HallStiles.class);
+        return all;
+    }
+
+    private static void sizes(List<Class<?>> classes) {
+        Checks.isTrue(classes.size() + " classes", classes.size() <= MOST_CLASSES);
+        for (Class<?> one : classes) {
+            int fields = 0;
+            for (Field field : one.getDeclaredFields()) {
+                if (!Modifier.isStatic(field.getModifiers())) {
+                    fields++;
+                }
+            }
+            Checks.isTrue(one + " has " + fields + " fields", fields <= MOST_FIELDS);
+            for (Method method : one.getDeclaredMethods()) {
+                Checks.isTrue(method + " takes many parameters",
+                        method.getParameterCount() <= MOST_PARAMETERS);
+            }
+        }
+    }
+
+    /** No method but those of the face bears the name of one of the face. */
+    private static void names(List<Class<?>> classes) {
+        Set<String> face = new TreeSet<>();
+        for (Method method : HallStiles.class.getMethods()) {
+            face.add(method.getName());
+        }
+        for (Class<?> one : classes) {
+            for (Method method : one.getDeclaredMethods()) {
+                boolean isFace = one == HallStiles.class
+                        && Modifier.isPublic(method.getModifiers());
+                Checks.isTrue(method + " bears the name of a public method",
+                        isFace || !face.contains(method.getName()));
             }
         }
     }
